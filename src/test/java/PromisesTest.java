@@ -260,7 +260,8 @@ public final class PromisesTest {
             due("letter " + letter, ARGUMENT, answer(() -> piece.bass(0, letter, 4, 0)));
         }
         for (int alteration : new int[] {Integer.MIN_VALUE, -2, 2, Integer.MAX_VALUE}) {
-            due("alteration " + alteration, ARGUMENT, answer(() -> piece.bass(0, 4, 3, alteration)));
+            due("alteration " + alteration, ARGUMENT,
+                    answer(() -> piece.bass(0, 4, 3, alteration)));
         }
         // 357913945 octaves are 48 more than a turn of an int.
         int[] octaves = {Integer.MIN_VALUE, -1, 0, 2, 6, 357913945, 715827886, Integer.MAX_VALUE};
@@ -592,6 +593,17 @@ public final class PromisesTest {
         piece.figure(0, 7, 3);
         piece.figure(0, 3, 3);
         due("no leading note in another key", 0, answer(piece::realise));
+        // B, B flat and A over a high B: there is no room for the tenor but with the bass.
+        piece.key(0, false);
+        piece.bass(0, 6, 4, 0);
+        piece.figure(0, 8, 2);
+        piece.figure(0, 7, 3);
+        due("the leading note is doubled", 9, answer(piece::realise));
+        due("the first placement of all", "70 69 59", laidOut(piece, 0));
+        due("its fee", 9, answer(() -> piece.cost(0)));
+        piece.key(0, true);
+        due("where B does not lead", 0, answer(piece::realise));
+        sevenths();
         piece.key(3, true);
         piece.bass(0, 6, 3, 0);
         figures(piece, 0, 4, 2);
@@ -600,6 +612,21 @@ public final class PromisesTest {
         piece.figure(1, 6, 0);
         int least = piece.realise();
         due("the chords' costs together", least, piece.cost(0) + piece.cost(1));
+    }
+
+    /** F, E and B, then E and B: an F would go in octaves with the bass, or far. */
+    private static void sevenths() {
+        FiguredBass piece = new FiguredBass();
+        piece.length(2);
+        piece.bass(0, 3, 3, 0);
+        figures(piece, 0, 7, 4);
+        piece.bass(1, 2, 3, 0);
+        figures(piece, 1, 5);
+        due("the seventh is doubled", 9, answer(piece::realise));
+        due("by soprano and tenor", "64 59 52", laidOut(piece, 0));
+        due("who stay", "64 59 52", laidOut(piece, 1));
+        due("the fee of the first chord", 9, answer(() -> piece.cost(0)));
+        due("nothing for the second chord", 0, answer(() -> piece.cost(1)));
     }
 
     private static void pupilIsWritten() {
@@ -672,15 +699,15 @@ public final class PromisesTest {
         due("a chord that is not whole", STATE, answer(piece::faults));
     }
 
-    /** Two chords, each a letter and an octave, with at most one figure and its sign. */
+    /** Two chords, each a letter, an octave and an alteration, then figures and their signs. */
     private static FiguredBass two(int[] first, int[] second) {
         FiguredBass piece = new FiguredBass();
         piece.length(2);
         int[][] both = {first, second};
         for (int i = 0; i < 2; i++) {
             piece.bass(i, both[i][0], both[i][1], both[i][2]);
-            if (both[i].length > 3) {
-                piece.figure(i, both[i][3], both[i][4]);
+            for (int k = 3; k < both[i].length; k += 2) {
+                piece.figure(i, both[i][k], both[i][k + 1]);
             }
         }
         return piece;
@@ -703,6 +730,8 @@ public final class PromisesTest {
         int[] g = {4, 3, 0};
         int[] g7 = {4, 3, 0, 7, 0};
         int[] b6 = {6, 3, 0, 6, 0};
+        int[] b65 = {6, 3, 0, 6, 0, 5, 0};
+        int[] d43 = {1, 4, 0, 4, 0, 3, 0};
         moveFaults("0.4.2 0.4.3 0.4.11", two(c, new int[] {1, 4, 0}), 67, 64, 60, 69, 65, 62);
         moveFaults("", two(c, new int[] {0, 3, 0}), 67, 64, 60, 67, 64, 60);
         moveFaults("0.4.3", two(new int[] {0, 5, 0}, new int[] {1, 4, 0}), 67, 64, 60, 69, 65, 53);
@@ -716,12 +745,17 @@ public final class PromisesTest {
         moveFaults("", two(g7, new int[] {0, 4, 0, 3, 2}), 65, 59, 55, 63, 60, 55);
         moveFaults("", two(g7, f), 65, 59, 55, 65, 60, 57);
         moveFaults("0.6.0", two(g7, g), 65, 59, 55, 62, 59, 55);
+        moveFaults("0.6.0", two(b65, c), 65, 62, 55, 67, 64, 55);
+        moveFaults("", two(b65, c), 65, 62, 55, 64, 60, 55);
+        moveFaults("0.6.0", two(d43, c), 65, 59, 55, 67, 64, 55);
+        moveFaults("", two(d43, c), 65, 59, 55, 64, 60, 55);
         moveFaults("0.6.3", two(new int[] {3, 3, 0, 2, 0}, g), 67, 62, 59, 67, 62, 59);
         moveFaults("", two(new int[] {3, 3, 0, 2, 0}, new int[] {2, 3, 0, 6, 0}),
                 67, 62, 59, 67, 60, 60);
         moveFaults("0.7.0", two(f, new int[] {2, 3, 0, 3, 1}), 65, 60, 57, 68, 64, 59);
         moveFaults("", two(f, new int[] {3, 3, 0, 3, 2}), 65, 60, 57, 68, 60, 53);
         moveFaults("1.3.0", two(f, f), 65, 60, 57, 68, 60, 57);
+        moveFaults("1.3.0", two(c, c), 72, 64, 60, 75, 64, 60);
         moveFaults("0.7.3", two(new int[] {3, 4, 0}, new int[] {4, 4, 1, 6, 0}),
                 69, 65, 60, 71, 64, 59);
         // A leading note needs no tone to lead.
