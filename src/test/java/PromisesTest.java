@@ -1,16 +1,5 @@
-import java.util.ArrayList;
-import java.util.List;
-import java.util.concurrent.Callable;
-
 /** Each promise of the document, with answers that were worked out by hand. */
-public final class PromisesTest {
-    private static final String ARGUMENT = "throws.IllegalArgumentException";
-    private static final String STATE = "throws.IllegalStateException";
-    private static final String INDEX = "throws.IndexOutOfBoundsException";
-    private static final int[] TOO_FAR = {Integer.MIN_VALUE, -1, 8, 9, Integer.MAX_VALUE};
-    private static int wrong = 0;
-    private static String promise = "";
-
+public final class PromisesTest extends Checks {
     public static void main(String[] args) {
         newObject();
         keyAlters();
@@ -36,91 +25,11 @@ public final class PromisesTest {
         faultsOfOneChord();
         faultsOfMoves();
         faultAnswers();
-        System.out.println(wrong == 0 ? "all promises hold" : wrong + " answers are not as due");
-        if (wrong != 0) {
-            System.exit(1);
-        }
-    }
-
-    private static void due(String what, Object want, Object got) {
-        if (!String.valueOf(want).equals(String.valueOf(got))) {
-            wrong++;
-            System.out.println(promise + ": " + what + " answered " + got + ", due is " + want);
-        }
-    }
-
-    private static String answer(Callable<Integer> call) {
-        try {
-            return String.valueOf(call.call());
-        } catch (Exception e) {
-            return "throws." + e.getClass().getSimpleName();
-        }
-    }
-
-    private static String done(Runnable call) {
-        return answer(() -> {
-            call.run();
-            return 0;
-        });
-    }
-
-    private static void figures(FiguredBass piece, int chord, int... numbers) {
-        for (int number : numbers) {
-            piece.figure(chord, number, 0);
-        }
-    }
-
-    private static void sing(FiguredBass piece, int chord, int soprano, int alto, int tenor) {
-        piece.pupil(chord, 0, soprano);
-        piece.pupil(chord, 1, alto);
-        piece.pupil(chord, 2, tenor);
-    }
-
-    /** Chord, kind and voices of all faults. */
-    private static String listFaults(FiguredBass piece) {
-        List<String> all = new ArrayList<>();
-        int count = piece.faults();
-        for (int k = 0; k < count; k++) {
-            all.add(piece.fault(k, 0) + "." + piece.fault(k, 1) + "." + piece.fault(k, 2));
-        }
-        return String.join(" ", all);
-    }
-
-    private static String tones(FiguredBass piece, int chord) {
-        List<String> all = new ArrayList<>();
-        for (int k = 0; k < 5; k++) {
-            int tone = k;
-            String spelled = answer(() -> piece.spell(chord, tone));
-            if (!spelled.equals(INDEX)) {
-                all.add(spelled);
-            }
-        }
-        return String.join(" ", all);
-    }
-
-    private static String laidOut(FiguredBass piece, int chord) {
-        return piece.note(chord, 0) + " " + piece.note(chord, 1) + " " + piece.note(chord, 2);
-    }
-
-    private static String placement(FiguredBass piece, int chord, int k) {
-        return piece.place(chord, k, 0) + " " + piece.place(chord, k, 1) + " "
-                + piece.place(chord, k, 2);
-    }
-
-    /** C, F, G with 7, and C, in C major. */
-    private static FiguredBass cadence() {
-        FiguredBass piece = new FiguredBass();
-        piece.length(4);
-        piece.bass(0, 0, 4, 0);
-        piece.bass(1, 3, 3, 0);
-        piece.bass(2, 4, 3, 0);
-        piece.figure(2, 7, 0);
-        piece.bass(3, 0, 3, 0);
-        return piece;
+        finish("all promises hold");
     }
 
     private static void newObject() {
-        promise = "1";
+        about("Promise 1");
         FiguredBass piece = new FiguredBass();
         for (int i = 0; i < 8; i++) {
             int chord = i;
@@ -138,25 +47,8 @@ public final class PromisesTest {
         due("leading class", 11, leadingClass(piece));
     }
 
-    /** Which class of a soprano may not go down. */
-    private static int leadingClass(FiguredBass piece) {
-        piece.length(2);
-        piece.bass(0, 0, 3, 0);
-        piece.bass(1, 0, 3, 0);
-        int leading = -1;
-        for (int i = 0; i < 12; i++) {
-            sing(piece, 0, 60 + i, 60, 55);
-            sing(piece, 1, 55 + i, 60, 55);
-            if ((" " + listFaults(piece) + " ").contains(" 0.5.0 ")) {
-                due("only one class leads", -1, leading);
-                leading = i;
-            }
-        }
-        return leading;
-    }
-
     private static void keyAlters() {
-        promise = "2";
+        about("Promise 2");
         String sharps = "3041526";
         String flats = "6251403";
         FiguredBass piece = new FiguredBass();
@@ -181,7 +73,7 @@ public final class PromisesTest {
     }
 
     private static void keyLeads() {
-        promise = "2";
+        about("Promise 2");
         // Of the majors from 7 flats to 7 sharps; a minor's tonic is 3 lower.
         int[] tonics = {11, 6, 1, 8, 3, 10, 5, 0, 7, 2, 9, 4, 11, 6, 1};
         for (int fifths = -7; fifths <= 7; fifths++) {
@@ -189,16 +81,17 @@ public final class PromisesTest {
             piece.key(fifths, false);
             int tonic = tonics[fifths + 7];
             due("leading class of major " + fifths, (tonic + 11) % 12, leadingClass(piece));
-            piece.key(fifths, true);
-            due("leading class of minor " + fifths, (tonic + 8) % 12, leadingClass(piece));
+            FiguredBass other = new FiguredBass();
+            other.key(fifths, true);
+            due("leading class of minor " + fifths, (tonic + 8) % 12, leadingClass(other));
         }
     }
 
     private static void keyRefuses() {
-        promise = "2";
+        about("Promise 2");
         FiguredBass piece = cadence();
         piece.realise();
-        for (int fifths : new int[] {Integer.MIN_VALUE, -8, 8, Integer.MAX_VALUE}) {
+        for (int fifths : new int[] {LEAST, -8, 8, GREATEST}) {
             due("key " + fifths, ARGUMENT, done(() -> piece.key(fifths, true)));
         }
         due("note after a refused key", 64, answer(() -> piece.note(0, 0)));
@@ -206,7 +99,7 @@ public final class PromisesTest {
     }
 
     private static void lengthCounts() {
-        promise = "3";
+        about("Promise 3");
         FiguredBass piece = new FiguredBass();
         piece.bass(0, 0, 4, 0);
         due("realise of one chord", 0, answer(piece::realise));
@@ -218,7 +111,7 @@ public final class PromisesTest {
         due("note of chord 7", STATE, answer(() -> piece.note(7, 0)));
         due("length 1", 0, done(() -> piece.length(1)));
         due("realise of one chord again", 0, answer(piece::realise));
-        for (int n : new int[] {Integer.MIN_VALUE, -1, 0, 9, Integer.MAX_VALUE}) {
+        for (int n : new int[] {LEAST, -1, 0, 9, GREATEST}) {
             due("length " + n, ARGUMENT, done(() -> piece.length(n)));
         }
         due("note after a refused length", 60, answer(() -> piece.note(0, 0)));
@@ -226,7 +119,7 @@ public final class PromisesTest {
     }
 
     private static void bassSounds() {
-        promise = "4";
+        about("Promise 4");
         FiguredBass piece = new FiguredBass();
         due("lowest C", 36, answer(() -> piece.bass(0, 0, 3, 0)));
         due("lowest B sharp", 36, answer(() -> piece.bass(0, 6, 2, 1)));
@@ -247,24 +140,24 @@ public final class PromisesTest {
     }
 
     private static void bassRefuses() {
-        promise = "4";
+        about("Promise 4");
         FiguredBass piece = new FiguredBass();
         piece.bass(0, 4, 3, 0);
         figures(piece, 0, 7);
         piece.realise();
         String before = tones(piece, 0) + " " + laidOut(piece, 0);
-        for (int chord : TOO_FAR) {
+        for (int chord : NO_CHORDS) {
             due("chord " + chord, ARGUMENT, answer(() -> piece.bass(chord, 0, 4, 0)));
         }
-        for (int letter : new int[] {Integer.MIN_VALUE, -1, 7, Integer.MAX_VALUE}) {
+        for (int letter : new int[] {LEAST, -1, 7, GREATEST}) {
             due("letter " + letter, ARGUMENT, answer(() -> piece.bass(0, letter, 4, 0)));
         }
-        for (int alteration : new int[] {Integer.MIN_VALUE, -2, 2, Integer.MAX_VALUE}) {
+        for (int alteration : new int[] {LEAST, -2, 2, GREATEST}) {
             due("alteration " + alteration, ARGUMENT,
                     answer(() -> piece.bass(0, 4, 3, alteration)));
         }
         // 357913945 octaves are 48 more than a turn of an int.
-        int[] octaves = {Integer.MIN_VALUE, -1, 0, 2, 6, 357913945, 715827886, Integer.MAX_VALUE};
+        int[] octaves = {LEAST, -1, 0, 2, 6, 357913945, 715827886, GREATEST};
         for (int octave : octaves) {
             due("octave " + octave, ARGUMENT, answer(() -> piece.bass(0, 0, octave, 0)));
         }
@@ -274,7 +167,7 @@ public final class PromisesTest {
     }
 
     private static void figureCounts() {
-        promise = "5";
+        about("Promise 5");
         FiguredBass piece = new FiguredBass();
         piece.bass(7, 0, 4, 0);
         due("the first figure", 1, answer(() -> piece.figure(7, 9, 3)));
@@ -286,7 +179,7 @@ public final class PromisesTest {
     }
 
     private static void figureRefuses() {
-        promise = "5";
+        about("Promise 5");
         FiguredBass piece = new FiguredBass();
         due("without a bass", STATE, answer(() -> piece.figure(0, 6, 0)));
         due("a wrong number without a bass", ARGUMENT, answer(() -> piece.figure(0, 10, 0)));
@@ -294,13 +187,13 @@ public final class PromisesTest {
         figures(piece, 0, 6);
         piece.realise();
         String before = tones(piece, 0) + " " + laidOut(piece, 0);
-        for (int chord : TOO_FAR) {
+        for (int chord : NO_CHORDS) {
             due("chord " + chord, ARGUMENT, answer(() -> piece.figure(chord, 4, 0)));
         }
-        for (int number : new int[] {Integer.MIN_VALUE, -1, 0, 1, 10, Integer.MAX_VALUE}) {
+        for (int number : new int[] {LEAST, -1, 0, 1, 10, GREATEST}) {
             due("number " + number, ARGUMENT, answer(() -> piece.figure(0, number, 0)));
         }
-        for (int sign : new int[] {Integer.MIN_VALUE, -1, 4, Integer.MAX_VALUE}) {
+        for (int sign : new int[] {LEAST, -1, 4, GREATEST}) {
             due("sign " + sign, ARGUMENT, answer(() -> piece.figure(0, 4, sign)));
         }
         due("the same number", STATE, answer(() -> piece.figure(0, 6, 1)));
@@ -321,7 +214,7 @@ public final class PromisesTest {
 
     /** Over C in C major: 2 is 14, 3 is 28, 4 is 41, 5 is 55, 6 is 69, 7 is 83. */
     private static void spellShortRows() {
-        promise = "6";
+        about("Promise 6");
         spellRow("0 155 28");
         spellRow("0 155 28", 3);
         spellRow("0 69 28", 6);
@@ -345,7 +238,7 @@ public final class PromisesTest {
     }
 
     private static void spellSigns() {
-        promise = "6";
+        about("Promise 6");
         FiguredBass piece = new FiguredBass();
         piece.key(2, false);
         piece.bass(0, 0, 4, -1);
@@ -375,14 +268,14 @@ public final class PromisesTest {
     }
 
     private static void spellRefuses() {
-        promise = "6";
+        about("Promise 6");
         FiguredBass piece = new FiguredBass();
-        for (int chord : TOO_FAR) {
+        for (int chord : NO_CHORDS) {
             due("chord " + chord, ARGUMENT, answer(() -> piece.spell(chord, 0)));
         }
         due("no bass and no such tone", STATE, answer(() -> piece.spell(0, 9)));
         piece.bass(0, 0, 4, 0);
-        for (int k : new int[] {Integer.MIN_VALUE, -1, 3, 4, Integer.MAX_VALUE}) {
+        for (int k : new int[] {LEAST, -1, 3, 4, GREATEST}) {
             due("tone " + k, INDEX, answer(() -> piece.spell(0, k)));
         }
         piece.figure(0, 8, 0);
@@ -390,9 +283,9 @@ public final class PromisesTest {
     }
 
     private static void placesCounts() {
-        promise = "7";
+        about("Promise 7");
         FiguredBass piece = cadence();
-        for (int chord : TOO_FAR) {
+        for (int chord : NO_CHORDS) {
             due("chord " + chord, ARGUMENT, answer(() -> piece.places(chord)));
         }
         due("C", 40, answer(() -> piece.places(0)));
@@ -416,20 +309,20 @@ public final class PromisesTest {
     }
 
     private static void placeOrders() {
-        promise = "8";
+        about("Promise 8");
         FiguredBass piece = cadence();
         String[] first = {"60 55 52", "60 60 52", "64 55 48", "64 55 52", "64 55 55", "64 60 48"};
         for (int k = 0; k < first.length; k++) {
             due("placement " + k + " of C", first[k], placement(piece, 0, k));
         }
         due("the last placement of C", "79 72 64", placement(piece, 0, 39));
-        for (int k : new int[] {Integer.MIN_VALUE, -1, 40, 64, Integer.MAX_VALUE}) {
+        for (int k : new int[] {LEAST, -1, 40, 64, GREATEST}) {
             due("placement " + k, INDEX, answer(() -> piece.place(0, k, 0)));
         }
-        for (int chord : TOO_FAR) {
+        for (int chord : NO_CHORDS) {
             due("chord " + chord, ARGUMENT, answer(() -> piece.place(chord, 0, 0)));
         }
-        for (int voice : new int[] {Integer.MIN_VALUE, -1, 3, 4, Integer.MAX_VALUE}) {
+        for (int voice : new int[] {LEAST, -1, 3, 4, GREATEST}) {
             due("voice " + voice, ARGUMENT, answer(() -> piece.place(7, 99, voice)));
         }
         due("without a bass", STATE, answer(() -> piece.place(7, 99, 0)));
@@ -438,7 +331,7 @@ public final class PromisesTest {
     }
 
     private static void realiseFindsTheLeast() {
-        promise = "9";
+        about("Promise 9");
         FiguredBass piece = cadence();
         due("the cadence", 8, answer(piece::realise));
         due("chord 0", "64 60 55", laidOut(piece, 0));
@@ -462,7 +355,7 @@ public final class PromisesTest {
     }
 
     private static void realiseKeepsRules() {
-        promise = "9";
+        about("Promise 9");
         // A realisation, handed in as a pupil's, must have no fault.
         int[][] basses = {{0, 4}, {5, 3}, {1, 4}, {4, 3}, {0, 4}, {3, 3}, {4, 3}, {0, 3}};
         for (int fifths = -7; fifths <= 7; fifths++) {
@@ -503,7 +396,7 @@ public final class PromisesTest {
     }
 
     private static void realiseSaysWhere() {
-        promise = "9";
+        about("Promise 9");
         basses("LEADING: B to G", -2, new int[] {6, 3, 0, 6}, new int[] {4, 3, 0, 0});
         basses("LEADING: B to C", 0, new int[] {6, 3, 0, 6}, new int[] {0, 4, 0, 0});
         basses("SEVENTH: C under 2 to A", -2, new int[] {0, 4, 0, 2}, new int[] {5, 3, 0, 0});
@@ -527,7 +420,7 @@ public final class PromisesTest {
     }
 
     private static void noteTellsWhatIsLaidOut() {
-        promise = "10";
+        about("Promise 10");
         FiguredBass piece = cadence();
         due("before a realisation", STATE, answer(() -> piece.note(0, 0)));
         piece.realise();
@@ -536,10 +429,10 @@ public final class PromisesTest {
             int chord = i;
             due("bass of chord " + i, bass[i], answer(() -> piece.note(chord, 3)));
         }
-        for (int voice : new int[] {Integer.MIN_VALUE, -1, 4, Integer.MAX_VALUE}) {
+        for (int voice : new int[] {LEAST, -1, 4, GREATEST}) {
             due("voice " + voice, ARGUMENT, answer(() -> piece.note(0, voice)));
         }
-        for (int chord : new int[] {Integer.MIN_VALUE, -1, 4, 7, 8, Integer.MAX_VALUE}) {
+        for (int chord : new int[] {LEAST, -1, 4, 7, 8, GREATEST}) {
             due("chord " + chord, ARGUMENT, answer(() -> piece.note(chord, 0)));
             due("cost of chord " + chord, ARGUMENT, answer(() -> piece.cost(chord)));
         }
@@ -559,7 +452,7 @@ public final class PromisesTest {
     }
 
     private static void noteForgets() {
-        promise = "10";
+        about("Promise 10");
         FiguredBass piece = cadence();
         forgets("the same key", piece, () -> piece.key(0, false));
         forgets("the same length", piece, () -> piece.length(4));
@@ -572,7 +465,7 @@ public final class PromisesTest {
     }
 
     private static void costAddsUp() {
-        promise = "11";
+        about("Promise 11");
         FiguredBass piece = cadence();
         due("before a realisation", STATE, answer(() -> piece.cost(0)));
         piece.realise();
@@ -630,16 +523,16 @@ public final class PromisesTest {
     }
 
     private static void pupilIsWritten() {
-        promise = "12";
+        about("Promise 12");
         FiguredBass piece = new FiguredBass();
         piece.bass(0, 0, 4, 0);
-        for (int chord : TOO_FAR) {
+        for (int chord : NO_CHORDS) {
             due("chord " + chord, ARGUMENT, done(() -> piece.pupil(chord, 0, 60)));
         }
-        for (int voice : new int[] {Integer.MIN_VALUE, -1, 3, 4, Integer.MAX_VALUE}) {
+        for (int voice : new int[] {LEAST, -1, 3, 4, GREATEST}) {
             due("voice " + voice, ARGUMENT, done(() -> piece.pupil(0, voice, 60)));
         }
-        for (int sound : new int[] {Integer.MIN_VALUE, -1, 128, Integer.MAX_VALUE}) {
+        for (int sound : new int[] {LEAST, -1, 128, GREATEST}) {
             due("sound " + sound, ARGUMENT, done(() -> piece.pupil(0, 0, sound)));
         }
         due("nothing has changed", "0.8.2", listFaults(piece));
@@ -658,7 +551,7 @@ public final class PromisesTest {
     }
 
     private static void faultsOfOneChord() {
-        promise = "13";
+        about("Promise 13");
         FiguredBass piece = new FiguredBass();
         due("without a bass", STATE, answer(piece::faults));
         piece.bass(0, 0, 4, 0);
@@ -699,20 +592,6 @@ public final class PromisesTest {
         due("a chord that is not whole", STATE, answer(piece::faults));
     }
 
-    /** Two chords, each a letter, an octave and an alteration, then figures and their signs. */
-    private static FiguredBass two(int[] first, int[] second) {
-        FiguredBass piece = new FiguredBass();
-        piece.length(2);
-        int[][] both = {first, second};
-        for (int i = 0; i < 2; i++) {
-            piece.bass(i, both[i][0], both[i][1], both[i][2]);
-            for (int k = 3; k < both[i].length; k += 2) {
-                piece.figure(i, both[i][k], both[i][k + 1]);
-            }
-        }
-        return piece;
-    }
-
     private static void moveFaults(String want, FiguredBass piece, int... sounds) {
         sing(piece, 0, sounds[0], sounds[1], sounds[2]);
         sing(piece, 1, sounds[3], sounds[4], sounds[5]);
@@ -724,7 +603,7 @@ public final class PromisesTest {
     }
 
     private static void faultsOfMoves() {
-        promise = "14";
+        about("Promise 14");
         int[] c = {0, 4, 0};
         int[] f = {3, 3, 0};
         int[] g = {4, 3, 0};
@@ -732,49 +611,49 @@ public final class PromisesTest {
         int[] b6 = {6, 3, 0, 6, 0};
         int[] b65 = {6, 3, 0, 6, 0, 5, 0};
         int[] d43 = {1, 4, 0, 4, 0, 3, 0};
-        moveFaults("0.4.2 0.4.3 0.4.11", two(c, new int[] {1, 4, 0}), 67, 64, 60, 69, 65, 62);
-        moveFaults("", two(c, new int[] {0, 3, 0}), 67, 64, 60, 67, 64, 60);
-        moveFaults("0.4.3", two(new int[] {0, 5, 0}, new int[] {1, 4, 0}), 67, 64, 60, 69, 65, 53);
-        moveFaults("0.5.0", two(g, c), 71, 62, 55, 67, 64, 55);
-        moveFaults("", two(g, c), 71, 62, 55, 72, 64, 55);
-        moveFaults("", two(g, new int[] {2, 3, 0}), 71, 62, 55, 71, 64, 55);
-        moveFaults("", two(g, c), 67, 59, 50, 67, 55, 52);
-        moveFaults("0.5.3", two(b6, g), 67, 62, 55, 67, 62, 59);
-        moveFaults("0.6.0", two(g7, c), 65, 59, 55, 67, 60, 52);
-        moveFaults("", two(g7, c), 65, 59, 55, 64, 60, 55);
-        moveFaults("", two(g7, new int[] {0, 4, 0, 3, 2}), 65, 59, 55, 63, 60, 55);
-        moveFaults("", two(g7, f), 65, 59, 55, 65, 60, 57);
-        moveFaults("0.6.0", two(g7, g), 65, 59, 55, 62, 59, 55);
-        moveFaults("0.6.0", two(b65, c), 65, 62, 55, 67, 64, 55);
-        moveFaults("", two(b65, c), 65, 62, 55, 64, 60, 55);
-        moveFaults("0.6.0", two(d43, c), 65, 59, 55, 67, 64, 55);
-        moveFaults("", two(d43, c), 65, 59, 55, 64, 60, 55);
-        moveFaults("0.6.3", two(new int[] {3, 3, 0, 2, 0}, g), 67, 62, 59, 67, 62, 59);
-        moveFaults("", two(new int[] {3, 3, 0, 2, 0}, new int[] {2, 3, 0, 6, 0}),
+        moveFaults("0.4.2 0.4.3 0.4.11", piece(c, new int[] {1, 4, 0}), 67, 64, 60, 69, 65, 62);
+        moveFaults("", piece(c, new int[] {0, 3, 0}), 67, 64, 60, 67, 64, 60);
+        moveFaults("0.4.3", piece(new int[] {0, 5, 0}, new int[] {1, 4, 0}), 67, 64, 60, 69, 65, 53);
+        moveFaults("0.5.0", piece(g, c), 71, 62, 55, 67, 64, 55);
+        moveFaults("", piece(g, c), 71, 62, 55, 72, 64, 55);
+        moveFaults("", piece(g, new int[] {2, 3, 0}), 71, 62, 55, 71, 64, 55);
+        moveFaults("", piece(g, c), 67, 59, 50, 67, 55, 52);
+        moveFaults("0.5.3", piece(b6, g), 67, 62, 55, 67, 62, 59);
+        moveFaults("0.6.0", piece(g7, c), 65, 59, 55, 67, 60, 52);
+        moveFaults("", piece(g7, c), 65, 59, 55, 64, 60, 55);
+        moveFaults("", piece(g7, new int[] {0, 4, 0, 3, 2}), 65, 59, 55, 63, 60, 55);
+        moveFaults("", piece(g7, f), 65, 59, 55, 65, 60, 57);
+        moveFaults("0.6.0", piece(g7, g), 65, 59, 55, 62, 59, 55);
+        moveFaults("0.6.0", piece(b65, c), 65, 62, 55, 67, 64, 55);
+        moveFaults("", piece(b65, c), 65, 62, 55, 64, 60, 55);
+        moveFaults("0.6.0", piece(d43, c), 65, 59, 55, 67, 64, 55);
+        moveFaults("", piece(d43, c), 65, 59, 55, 64, 60, 55);
+        moveFaults("0.6.3", piece(new int[] {3, 3, 0, 2, 0}, g), 67, 62, 59, 67, 62, 59);
+        moveFaults("", piece(new int[] {3, 3, 0, 2, 0}, new int[] {2, 3, 0, 6, 0}),
                 67, 62, 59, 67, 60, 60);
-        moveFaults("0.7.0", two(f, new int[] {2, 3, 0, 3, 1}), 65, 60, 57, 68, 64, 59);
-        moveFaults("", two(f, new int[] {3, 3, 0, 3, 2}), 65, 60, 57, 68, 60, 53);
-        moveFaults("1.3.0", two(f, f), 65, 60, 57, 68, 60, 57);
-        moveFaults("1.3.0", two(c, c), 72, 64, 60, 75, 64, 60);
-        moveFaults("0.7.3", two(new int[] {3, 4, 0}, new int[] {4, 4, 1, 6, 0}),
+        moveFaults("0.7.0", piece(f, new int[] {2, 3, 0, 3, 1}), 65, 60, 57, 68, 64, 59);
+        moveFaults("", piece(f, new int[] {3, 3, 0, 3, 2}), 65, 60, 57, 68, 60, 53);
+        moveFaults("1.3.0", piece(f, f), 65, 60, 57, 68, 60, 57);
+        moveFaults("1.3.0", piece(c, c), 72, 64, 60, 75, 64, 60);
+        moveFaults("0.7.3", piece(new int[] {3, 4, 0}, new int[] {4, 4, 1, 6, 0}),
                 69, 65, 60, 71, 64, 59);
         // A leading note needs no tone to lead.
-        moveFaults("0.3.0 0.5.0", two(c, c), 71, 64, 60, 67, 64, 60);
+        moveFaults("0.3.0 0.5.0", piece(c, c), 71, 64, 60, 67, 64, 60);
     }
 
     private static void faultAnswers() {
-        promise = "14";
+        about("Promise 14");
         FiguredBass piece = cadence();
         due("none were looked for", INDEX, answer(() -> piece.fault(0, 0)));
         due("none were looked for, and nothing such", INDEX, answer(() -> piece.fault(0, 3)));
         due("faults", 8, answer(piece::faults));
         String all = "0.8.2 1.8.2 2.3.0 2.3.1 2.3.2 2.8.1 2.8.3 3.8.2";
         due("their order", all, listFaults(piece));
-        for (int k : new int[] {Integer.MIN_VALUE, -1, 8, 9, Integer.MAX_VALUE}) {
+        for (int k : new int[] {LEAST, -1, 8, 9, GREATEST}) {
             due("fault " + k, INDEX, answer(() -> piece.fault(k, 0)));
             due("fault " + k + " and nothing such", INDEX, answer(() -> piece.fault(k, 3)));
         }
-        for (int what : new int[] {Integer.MIN_VALUE, -1, 3, Integer.MAX_VALUE}) {
+        for (int what : new int[] {LEAST, -1, 3, GREATEST}) {
             due("what " + what, ARGUMENT, answer(() -> piece.fault(7, what)));
         }
         sing(piece, 0, 64, 60, 55);
