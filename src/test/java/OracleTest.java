@@ -79,15 +79,15 @@ public final class OracleTest {
     private static int goThroughRows(int letter, int octave, int alteration) {
         int most = 0;
         for (int fifths = -7; fifths <= 7; fifths++) {
-            FiguredBass tested = new FiguredBass();
-            Oracle oracle = new Oracle();
-            tested.key(fifths, false);
-            oracle.key(fifths, false);
             // A digit of the code is a number's sign, or 0 where the number is not written; short
             // rows descend, and so do these. The key bears only on figures that are added, and
             // those are added to at most two.
             for (int code = 0; code < 65536; code++) {
                 if (countFigures(code) <= (fifths == 0 ? 3 : 2)) {
+                    FiguredBass tested = new FiguredBass();
+                    Oracle oracle = new Oracle();
+                    tested.key(fifths, false);
+                    oracle.key(fifths, false);
                     tested.bass(0, letter, octave, alteration);
                     oracle.bass(0, letter, octave, alteration);
                     most = Math.max(most, goThroughRow(tested, oracle, code));

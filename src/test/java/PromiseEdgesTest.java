@@ -297,7 +297,8 @@ public final class PromiseEdgesTest extends Checks {
         due("one", 1, answer(() -> piece(new int[] {0, 5, 0, 7, 0, 6, 1}).places(0)));
         due("three", 3, answer(() -> piece(new int[] {6, 4, 0, 8, 2}).places(0)));
         // B sharp has C's class.
-        due("the most, of C, D and G", 44, answer(() -> piece(new int[] {4, 3, 0, 3, 1}).places(0)));
+        due("the most, of C, D and G", 44,
+                answer(() -> piece(new int[] {4, 3, 0, 3, 1}).places(0)));
         due("it is not whole", STATE, answer(() -> piece(new int[] {4, 3, 0, 8, 0}).places(0)));
     }
 
@@ -427,8 +428,9 @@ public final class PromiseEdgesTest extends Checks {
         }
         for (int i = 0; i < 8; i++) {
             FiguredBass piece = piece(C, C, C, C, C, C, C, C);
+            due("placements of all chords", 0, answer(piece::realise));
             write(piece, i, NO_ROOM);
-            due("no placement of chord " + i, -1 - i, answer(piece::realise));
+            due("no placement of chord " + i + " any more", -1 - i, answer(piece::realise));
             if (i > 0) {
                 piece.length(i);
                 due("up to the chord before", 0, answer(piece::realise));

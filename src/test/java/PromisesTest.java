@@ -613,7 +613,8 @@ public final class PromisesTest extends Checks {
         int[] d43 = {1, 4, 0, 4, 0, 3, 0};
         moveFaults("0.4.2 0.4.3 0.4.11", piece(c, new int[] {1, 4, 0}), 67, 64, 60, 69, 65, 62);
         moveFaults("", piece(c, new int[] {0, 3, 0}), 67, 64, 60, 67, 64, 60);
-        moveFaults("0.4.3", piece(new int[] {0, 5, 0}, new int[] {1, 4, 0}), 67, 64, 60, 69, 65, 53);
+        moveFaults("0.4.3", piece(new int[] {0, 5, 0}, new int[] {1, 4, 0}),
+                67, 64, 60, 69, 65, 53);
         moveFaults("0.5.0", piece(g, c), 71, 62, 55, 67, 64, 55);
         moveFaults("", piece(g, c), 71, 62, 55, 72, 64, 55);
         moveFaults("", piece(g, new int[] {2, 3, 0}), 71, 62, 55, 71, 64, 55);
